@@ -334,9 +334,9 @@ public final class RiverTolls {
             return NONE;
         }
         int best = 1;
-        int least = costInTwo(1);
+        int least = costOf(1) + costOf(boat.barrels - 1);
         for (int x = 2; x <= boat.barrels / 2; x++) {
-            int cost = costInTwo(x);
+            int cost = costOf(x) + costOf(boat.barrels - x);
             if (cost < least) {
                 best = x;
                 least = cost;
@@ -534,10 +534,6 @@ public final class RiverTolls {
         return route.total;
     }
 
-    private int costInTwo(int x) {
-        return costOf(x) + costOf(boat.barrels - x);
-    }
-
     /** Whether all that was left would be so by the way found, one coin more taken at the rock r. */
     private boolean allLeftIfTook(int r) {
         for (int i = 0; i < leftCount && i < MOST_LEFT; i++) {
@@ -653,7 +649,7 @@ public final class RiverTolls {
         }
 
         int letterAt(int place) {
-            return Row.get(letters, place);
+            return place >= 0 && place < letters.length ? letters[place] : 0;
         }
     }
 
@@ -734,25 +730,17 @@ public final class RiverTolls {
                 if (token == END) {
                     return NO_FAULT;
                 }
-                if (!readItem(river)) {
+                // kept, as reading on changes the token
+                int sign = token;
+                boolean isRead = sign == 'r' && readRock(river)
+                    || sign == 'b' && readBarrels(river)
+                    || sign == 'c' && readCoins(river);
+                if (!isRead) {
                     return start;
                 }
                 river.items++;
             }
             return start;
-        }
-
-        private boolean readItem(River river) {
-            switch (token) {
-                case 'r':
-                    return readRock(river);
-                case 'b':
-                    return readBarrels(river);
-                case 'c':
-                    return readCoins(river);
-                default:
-                    return false;
-            }
         }
 
         private boolean readRock(River river) {
@@ -947,6 +935,8 @@ public final class RiverTolls {
         private int letter;
         private final int[] prices;
         private final int[] landPrices;
+        /** 1 where the next rock has the same lord. */
+        private final int[] sameLords;
         private final int[] spent;
         /** The least cost from each rock on: two of each, by whether a letter frees it. */
         private final int[] least;
@@ -958,6 +948,7 @@ public final class RiverTolls {
             byLand = new int[MOST_ROCKS];
             prices = new int[MOST_ROCKS];
             landPrices = new int[MOST_ROCKS];
+            sameLords = new int[MOST_ROCKS];
             spent = new int[MOST_ROCKS];
             least = new int[2 * (MOST_ROCKS + 1)];
         }
@@ -991,6 +982,8 @@ public final class RiverTolls {
                 int price = isBroken ? 0 : told.price(r, Row.get(tolls, r), barrels);
                 Row.put(prices, r, price);
                 Row.put(landPrices, r, told.fact(r, LAND) * barrels);
+                boolean isSameLord = r + 1 < told.rocks && told.fact(r, LORD) == told.fact(r + 1, LORD);
+                Row.put(sameLords, r, isSameLord ? 1 : 0);
             }
         }
 
@@ -1030,8 +1023,7 @@ public final class RiverTolls {
         }
 
         private int freedBehind(int r, int pay) {
-            boolean isSameLord = r + 1 < told.rocks && told.fact(r, LORD) == told.fact(r + 1, LORD);
-            return pay > 0 && isSameLord ? 1 : 0;
+            return pay > 0 ? Row.get(sameLords, r) : 0;
         }
 
         private int leastFrom(int r, int freed) {
