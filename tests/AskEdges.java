@@ -30,7 +30,7 @@ final class AskEdges {
         Edges.on("b1;r2 1 0 0 1;r2 1 0 0 9;r9 1 0 0 2;", "way(-1)=3; way(0)=1; way(1)=0; way(2)=0");
     }
 
-    @Says("1 if it goes BY LAND at a ROCK, 0 (NONE: a ROCK that is passed)")
+    @Says(": how much; 1 if it goes BY LAND at a ROCK, 0 (NONE: a ROCK that is passed)")
     static void passed() {
         Edges.on(Edges.rocks(3), "way(0)=0; way(2)=0; way(3)=BAD; way(-2)=BAD; pays(); way(0)=NONE; way(1)=0; way(2)=0; way(3)=BAD;"
             + "pays(); pays(); way(0)=NONE; way(2)=NONE; way(3)=BAD; way(-1)=0");
@@ -219,6 +219,7 @@ final class AskEdges {
         Edges.on("b5;r1 1 0 0 30;r1 5 1 0 30;", "one()=2");
         Edges.on("b5;r4 5 0 0 30;", "one()=1");
         Edges.on("b1;r9 1 0 0 30;", "one()=9; sells(1, 0); one()=NONE");
+        Edges.on("b2;r9 1 0 0 3;r1 1 0 0 30;", "way(0)=1; way(-1)=8; one()=4");
         Edges.on("b30;" + "r9 1 0 0 30;r9 1 1 0 30;".repeat(4), "one()=72");
     }
 }

@@ -7,25 +7,27 @@ import java.util.List;
 import java.util.regex.Matcher;
 import java.util.regex.Pattern;
 
-/** Each sentence of the document that names an edge has a test of its own; none of them is left out. */
+/** Every sentence that the document promises, its edges too, stands in the words of a test; none of them is left out. */
 public final class EdgeTest {
     private static final List<Class<?>> GROUPS = List.of(TextEdges.class, DeedEdges.class, AskEdges.class, KindEdges.class,
         PromiseEdges.class, RefusedEdges.class);
-    /** What an edge is told by. */
-    private static final Pattern EDGE = Pattern.compile("\\d+ \\.\\. \\d+|at most|at first|\\bonce\\b|too early|above|below|ahead of others"
-        + "|too\\)|are known|older ones|\\bcut\\b|greater half|last one|least|of several|fewest|fewer|no BARRELS|passed|more ROCKS than"
-        + "|Refused|refused|\\bBAD\\b|\\bSTATE\\b|\\bFULL\\b|\\bNONE\\b|\\bNO\\b|gone|nothing|not so|\\bnone\\b|no ROCKS|is empty");
+    /** Lines that say nothing of a call: headings, marks of a block, and what LanguageTest looks for in the source. */
+    private static final Pattern FRAME = Pattern.compile("(?m)^(#|```|Ahead of the calls).*$|^=+ \\d+");
+    /** The head of a promise: that there is such a call is looked for by LanguageTest. */
+    private static final Pattern HEAD = Pattern.compile("`\\w+ \\w+\\([^)]*\\)`:");
+    private static final Pattern WORD = Pattern.compile("[\\w-]+");
 
     private static final Path DOCUMENT = Path.of("../shared/DOC.md");
 
     private EdgeTest() {
     }
 
-    /** The document's promises in one line: without its first words, the face's Java, and what is not promised. */
+    /** All that is promised, in one line: without the first words, which only name it, the face's Java, and what is not promised. */
     private static String document() throws IOException {
         String all = Files.readString(DOCUMENT);
         String promised = all.substring(all.indexOf("An object is used for"), all.indexOf("## Not promised"));
-        return promised.replaceAll("(?s)```java.*?```", " ").replaceAll("\\s+", " ");
+        String said = FRAME.matcher(promised.replaceAll("(?s)```java.*?```", " ")).replaceAll(" ");
+        return said.replaceAll("\\s+", " ");
     }
 
     private static void fail(String what) {
@@ -48,14 +50,15 @@ public final class EdgeTest {
         for (int i = 0; i < words.length() && place >= 0; i++) covered[place + i] = true;
     }
 
-    /** Every edge that the document tells is among the words of a test. */
     private static void lookForOthers(String document, boolean[] covered) {
-        Matcher edge = EDGE.matcher(document);
-        while (edge.find()) {
-            boolean isHeld = covered[edge.start()] && covered[edge.end() - 1];
-            int from = Math.max(0, edge.start() - 40);
-            int to = Math.min(document.length(), edge.end() + 40);
-            if (!isHeld) fail("no test holds \"" + document.substring(from, to) + "\"");
+        Matcher head = HEAD.matcher(document);
+        while (head.find()) for (int i = head.start(); i < head.end(); i++) covered[i] = true;
+        Matcher word = WORD.matcher(document);
+        while (word.find()) {
+            boolean isHeld = covered[word.start()] && covered[word.end() - 1];
+            int from = Math.max(0, word.start() - 40);
+            int to = Math.min(document.length(), word.end() + 40);
+            if (!isHeld) fail("no test holds \"" + word.group() + "\" in \"" + document.substring(from, to) + "\"");
         }
     }
 

@@ -26,7 +26,8 @@ final class KindEdges {
         Edges.on(Edges.rocks(8), "rate(4, 7)=7; rate(4, 0)=0; rate(4, 8)=NO; rate(4, -1)=NO; breaks(7); rate(0, 7)=1; sets(7, 0); rate(0, 7)=0");
     }
 
-    @Says("(numbers in brackets are added to THE TRACE, 0 at first, as often as rate() asks that body: each once; \"up\" is what the KIND above does)")
+    @Says("RATE of a ROCK as if of a KIND (numbers in brackets are added to THE TRACE, 0 at first, as often as rate() asks that body: each once;"
+        + " \"up\" is what the KIND above does)")
     static void traceNumbers() {
         Edges.on(Edges.rocks(1), "trace()=0; rate(0, 0); trace()=1; rate(1, 0); trace()=12; rate(2, 0); trace()=113; rate(3, 0); trace()=1124;"
             + "rate(4, 0); trace()=11225; rate(5, 0); trace()=111226");

@@ -16,6 +16,7 @@ import java.util.regex.Pattern;
 
 /** The face is the document's, and the source keeps to the rules of LANGUAGE.md that can be seen by a look at its words. */
 public final class LanguageTest {
+    private static final Path DOCUMENT = Path.of("../shared/DOC.md");
     private static final Path SOURCE = Path.of("src/main/java/RiverTolls.java");
     private static final int MOST_LINES = 60;
     private static final int MOST_DEEP = 8;
@@ -99,6 +100,26 @@ public final class LanguageTest {
         hold(RiverTolls.class.getDeclaredConstructors().length == 1, "more constructors than one");
     }
 
+    /** The comments that the document wants ahead of calls stand there, and the calls behind them in its order. */
+    private static void groups(String source) throws IOException {
+        if (!Files.isReadable(DOCUMENT)) {
+            System.out.println("LanguageTest: no document at " + DOCUMENT + ", so that its groups of calls were not looked for");
+            return;
+        }
+        Matcher group = Pattern.compile("(?m)^Ahead of the calls (.*) the interface says: (---- .*)\\.$").matcher(Files.readString(DOCUMENT));
+        int groups = 0;
+        for (; group.find(); groups++) {
+            String[] parts = source.split("// " + group.group(2) + "\n", -1);
+            hold(parts.length == 2, "not once: " + group.group(2));
+            if (parts.length != 2) continue;
+            List<String> calls = new ArrayList<>();
+            Matcher call = Pattern.compile("(?m)^    public \\w+ (\\w+)\\(").matcher(parts[1].split("// ---- ")[0]);
+            for (; call.find();) calls.add("`" + call.group(1) + "`");
+            hold(String.join(", ", calls).equals(group.group(1)), "behind " + group.group(2) + " stand " + calls);
+        }
+        hold(groups == 6, "the document tells " + groups + " groups of calls");
+    }
+
     private static void classesInside() {
         Class<?>[] inside = RiverTolls.class.getDeclaredClasses();
         hold(inside.length < 12, "too many classes");
@@ -149,11 +170,29 @@ public final class LanguageTest {
         }
     }
 
-    /** By name, each method's name and what it calls: methods of one name count as one. */
-    private static Map<String, Set<String>> calls(String bare) {
+    /** By name, what stands in each method and constructor: methods of one name count as one. */
+    private static Map<String, String> bodies(String bare) {
         Map<String, String> bodies = new TreeMap<>();
-        Matcher m = Pattern.compile("(?m)^( {4}| {8})[^ \n].*?(\\w+)\\([^()\n]*\\) \\{\n((?:.*\n)*?)\\1\\}").matcher(bare);
+        Matcher m = Pattern.compile("(?m)^( {4}| {8})(?=[^ \n]).*?\\b(\\w+)\\([^()\n]*\\) \\{\n((?:.*\n)*?)\\1\\}").matcher(bare);
         for (int from = 0; m.find(from); from = m.end()) bodies.merge(m.group(2), m.group(3), String::concat);
+        return bodies;
+    }
+
+    /** All calls of a run live in one room: none of them makes anything, only the constructors do. */
+    private static void objects(String bare) {
+        Map<String, String> bodies = bodies(bare);
+        int made = 0;
+        for (String name : bodies.keySet()) {
+            int makes = bodies.get(name).split("\\bnew\\b", -1).length - 1;
+            boolean isConstructor = Character.isUpperCase(name.charAt(0));
+            hold(isConstructor || makes == 0 && !bodies.get(name).contains("clone("), name + " makes an object");
+            made += makes;
+        }
+        hold(made == bare.split("\\bnew\\b", -1).length - 1, "an object is made outside of methods");
+    }
+
+    private static Map<String, Set<String>> calls(String bare) {
+        Map<String, String> bodies = bodies(bare);
         Map<String, Set<String>> calls = new TreeMap<>();
         for (String name : bodies.keySet()) {
             Set<String> called = new TreeSet<>();
@@ -185,8 +224,10 @@ public final class LanguageTest {
         classesInside();
         String source = Files.readString(SOURCE);
         hold(source.chars().allMatch(c -> c == '\n' || c >= 32 && c < 127), "a sign beyond 126 in the source");
+        groups(source);
         words(bare(source));
         depths(bare(source));
+        objects(bare(source));
         lengths(source);
         System.out.println("LanguageTest: " + wrong + " wrong");
         if (wrong != 0) System.exit(1);

@@ -212,7 +212,7 @@ final class PromiseEdges {
         Edges.on("", "rate(0, 0)=NO; trace()=0");
     }
 
-    @Says("`NO = -1000000`: What none is, where a number may be below 0.")
+    @Says("The constants: `NO = -1000000`: What none is, where a number may be below 0.")
     static void no() {
         Edges.due("the class", "NO", RiverTolls.NO, -1000000);
         Edges.on("r0 1 0 0 1;r0 1 0 0 0;", "rate(2, 0)=-1; rate(4, 0)=-1; rate(4, 1)=1; rate(2, 2)=NO");

@@ -8,7 +8,7 @@ final class TextEdges {
     private TextEdges() {
     }
 
-    @Says("at most 512 calls after it has been made")
+    @Says("An object is used for at most 512 calls after it has been made; what later calls answer is free.")
     static void calls() {
         Run run = Run.of("b30;c900;" + Edges.rocks(8));
         for (int i = 0; i < 204; i++) Edges.goOn(run, "sets(7, " + i % 10 + ")=1; undo()=0");
@@ -69,7 +69,7 @@ final class TextEdges {
         Edges.faults("r0 1 0 0 -1;", 9);
     }
 
-    @Says("BARRELS (1 .. 30; 10 at first)")
+    @Says("The BOAT: BARRELS (1 .. 30; 10 at first)")
     static void barrels() {
         Edges.on("", "now(1)=10");
         Edges.on("c5;", "now(1)=10");
